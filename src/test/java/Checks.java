@@ -1,0 +1,97 @@
+import java.security.MessageDigest;
+import java.security.NoSuchAlgorithmException;
+
+/** What the tests share: counting wrong answers, and the JDK's own SHA-256 to hold HASH against. */
+final class Checks {
+    private final String test;
+    private int calls;
+    private int wrong;
+
+    Checks(String test) {
+        this.test = test;
+    }
+
+    void due(String call, long got, long want) {
+        calls++;
+        if (got != want) {
+            wrong++;
+            if (wrong <= 40) {
+                System.out.println(test + ": " + call + " answered " + got + ", due is " + want);
+            }
+        }
+    }
+
+    boolean allRight() {
+        return wrong == 0;
+    }
+
+    void end() {
+        System.out.println(test + ": " + calls + " answers, " + wrong + " not as due");
+        if (wrong != 0 || calls == 0) {
+            System.exit(1);
+        }
+    }
+
+    static int[] sha(int... bytes) {
+        byte[] row = new byte[bytes.length];
+        for (int i = 0; i < row.length; i++) {
+            row[i] = (byte) bytes[i];
+        }
+        try {
+            byte[] result = MessageDigest.getInstance("SHA-256").digest(row);
+            int[] answer = new int[result.length];
+            for (int i = 0; i < answer.length; i++) {
+                answer[i] = result[i] & 255;
+            }
+            return answer;
+        } catch (NoSuchAlgorithmException e) {
+            throw new IllegalStateException(e);
+        }
+    }
+
+    static int[] join(int[]... rows) {
+        int length = 0;
+        for (int[] row : rows) {
+            length += row.length;
+        }
+        int[] all = new int[length];
+        int at = 0;
+        for (int[] row : rows) {
+            System.arraycopy(row, 0, all, at, row.length);
+            at += row.length;
+        }
+        return all;
+    }
+
+    /** Every byte of the disk; this goes past 512 calls, which this program answers all the same. */
+    static int[] diskOf(SealedPages x) {
+        int[] bytes = new int[x.size()];
+        for (int i = 0; i < bytes.length; i++) {
+            bytes[i] = x.disk(i);
+        }
+        return bytes;
+    }
+
+    static int[] rootOf(SealedPages x) {
+        int[] bytes = new int[32];
+        for (int i = 0; i < bytes.length; i++) {
+            bytes[i] = x.root(i);
+        }
+        return bytes;
+    }
+
+    static int[] draftOf(SealedPages x) {
+        int[] bytes = new int[64];
+        for (int i = 0; i < bytes.length; i++) {
+            bytes[i] = x.draft(i);
+        }
+        return bytes;
+    }
+
+    void dueRow(String what, int[] got, int[] want) {
+        due(what + " length", got.length, want.length);
+        for (int i = 0; i < Math.min(got.length, want.length); i++) {
+            due(what + " byte " + i, got[i], want[i]);
+        }
+    }
+}
