@@ -453,6 +453,7 @@ public final class SealedPages {
             words[word] = (words[word] << 8) | (b & LOWEST_EIGHT_BITS);
             length++;
             if ((length & (BLOCK_BYTES - 1)) == 0) {
+                spreadWords();
                 mixBlock();
             }
         }
@@ -505,7 +506,6 @@ public final class SealedPages {
         }
 
         private void mixBlock() {
-            spreadWords();
             int a = sums[0];
             int b = sums[1];
             int c = sums[2];
