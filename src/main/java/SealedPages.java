@@ -69,32 +69,26 @@ public final class SealedPages {
     }
 
     public int read(int page) {
-        if (!layout.hasPage(page)) {
-            return NONE;
-        }
-        int found = faultOfWay(page);
-        if (found != HOLDS) {
+        int found = fault(page);
+        if (found == HOLDS) {
+            System.arraycopy(diskBytes, layout.placeOfPage(page), draftBytes, 0, PAGE_BYTES);
+            pagesGiven++;
+        } else if (found != NONE) {
             faultsTold++;
-            return found;
         }
-        System.arraycopy(diskBytes, layout.placeOfPage(page), draftBytes, 0, PAGE_BYTES);
-        pagesGiven++;
-        return HOLDS;
+        return found;
     }
 
     public int write(int page) {
-        if (!layout.hasPage(page)) {
-            return NONE;
-        }
-        int found = faultOfWay(page);
-        if (found != HOLDS) {
+        int found = fault(page);
+        if (found == HOLDS) {
+            System.arraycopy(draftBytes, 0, diskBytes, layout.placeOfPage(page), PAGE_BYTES);
+            sealWay(page);
+            pagesWritten++;
+        } else if (found != NONE) {
             faultsTold++;
-            return found;
         }
-        System.arraycopy(draftBytes, 0, diskBytes, layout.placeOfPage(page), PAGE_BYTES);
-        sealWay(page);
-        pagesWritten++;
-        return HOLDS;
+        return found;
     }
 
     public int seal() {
@@ -137,7 +131,14 @@ public final class SealedPages {
     }
 
     public int fault(int page) {
-        return layout.hasPage(page) ? faultOfWay(page) : NONE;
+        if (!layout.hasPage(page)) {
+            return NONE;
+        }
+        int found = faultAboveTree();
+        for (int level = layout.levelCount - 1; level >= 0 && found == HOLDS; level--) {
+            found = faultOfNode(level, page >> level);
+        }
+        return found;
     }
 
     public int held() {
@@ -301,14 +302,6 @@ public final class SealedPages {
     private int faultOfNode(int level, int k) {
         hashNode(level, k);
         return hasher.resultIsAt(diskBytes, layout.placeOfNode(level, k)) ? HOLDS : LEVEL_0_FAULT + level;
-    }
-
-    private int faultOfWay(int page) {
-        int found = faultAboveTree();
-        for (int level = layout.levelCount - 1; level >= 0 && found == HOLDS; level--) {
-            found = faultOfNode(level, page >> level);
-        }
-        return found;
     }
 
     /** All ways at once: each node is hashed once at most, though many ways go through it. */
