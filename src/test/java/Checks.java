@@ -1,5 +1,7 @@
 import java.security.MessageDigest;
 import java.security.NoSuchAlgorithmException;
+import java.util.function.Consumer;
+import java.util.function.ToIntFunction;
 
 /** What the tests share: counting wrong answers, and the JDK's own SHA-256 to hold HASH against. */
 final class Checks {
@@ -93,5 +95,42 @@ final class Checks {
         for (int i = 0; i < Math.min(got.length, want.length); i++) {
             due(what + " byte " + i, got[i], want[i]);
         }
+    }
+
+    /** The call answers this after that run, and leaves all that can be seen as it was. */
+    void leaves(String call, int pages, Consumer<SealedPages> run, ToIntFunction<SealedPages> made, int want) {
+        String name = call + " of " + pages;
+        due(name, Seen.answer(pages, run, made), want);
+        dueRow("all after " + name, Seen.after(pages, run.andThen(made::applyAsInt)), Seen.after(pages, run));
+    }
+
+    /** NONE, and all as it was: where every way holds and something is kept, and where neither is so. */
+    void refused(String call, int pages, ToIntFunction<SealedPages> made) {
+        leaves(call + " on a sealed image", pages, Seen::busy, made, SealedPages.NONE);
+        leaves(call + " on a broken image", pages, Seen::broken, made, SealedPages.NONE);
+    }
+
+    static int[] nodeOf(SealedPages x, int level, int k) {
+        int start = x.node(level, k);
+        int[] bytes = new int[32];
+        for (int i = 0; i < bytes.length; i++) {
+            bytes[i] = x.disk(start + i);
+        }
+        return bytes;
+    }
+
+    /** Alters a stretch of the disk, where this was, to that; one call a byte, for the 512. */
+    static void lay(SealedPages x, int start, int n, int[] diskWas, int[] diskWanted) {
+        for (int i = start; i < start + n; i++) {
+            x.alter(i, diskWas[i] ^ diskWanted[i]);
+        }
+    }
+
+    static int[] bytesOf(String hexadecimal) {
+        int[] bytes = new int[hexadecimal.length() / 2];
+        for (int i = 0; i < bytes.length; i++) {
+            bytes[i] = Integer.parseInt(hexadecimal.substring(2 * i, 2 * i + 2), 16);
+        }
+        return bytes;
     }
 }
