@@ -65,15 +65,6 @@ final class Checks {
         return all;
     }
 
-    /** Every byte of the disk; this goes past 512 calls, which this program answers all the same. */
-    static int[] diskOf(SealedPages x) {
-        int[] bytes = new int[x.size()];
-        for (int i = 0; i < bytes.length; i++) {
-            bytes[i] = x.disk(i);
-        }
-        return bytes;
-    }
-
     static int[] rootOf(SealedPages x) {
         int[] bytes = new int[32];
         for (int i = 0; i < bytes.length; i++) {

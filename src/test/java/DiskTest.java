@@ -1,3 +1,5 @@
+import java.util.function.Consumer;
+
 /** Promises 8 size, 9 disk, 10 alter, 11 carry, 12 root, 20 keep, 21 back, 22 open. */
 public final class DiskTest {
     private static final Checks CHECKS = new Checks("DiskTest");
@@ -41,40 +43,60 @@ public final class DiskTest {
         }
     }
 
+    private static int bitsFor(int i) {
+        int[] bits = {1, 128, 255, 256, -1, 0, 511, Integer.MIN_VALUE, Integer.MAX_VALUE, 0x55aa};
+        return bits[i % bits.length];
+    }
+
+    private static void alterAll(SealedPages x) {
+        for (int i = 0; i < 232; i++) {
+            x.alter(i, bitsFor(i));
+        }
+    }
+
     private static void promise10Alter() {
         SealedPages x = new SealedPages(2);
-        int[] want = Checks.diskOf(x);
-        int[] bits = {1, 128, 255, 256, -1, 0, 511, Integer.MIN_VALUE, Integer.MAX_VALUE, 0x55aa};
-        int[] root = Checks.rootOf(x);
-        for (int i = 0; i < x.size(); i++) {
-            int v = bits[i % bits.length];
+        int[] want = new Model(2).disk;
+        for (int i = 0; i < want.length; i++) {
+            int v = bitsFor(i);
             CHECKS.due("alter " + i + " " + v, x.alter(i, v), want[i]);
             want[i] = (want[i] ^ v) & 255;
             CHECKS.due("disk after alter " + i, x.disk(i), want[i]);
         }
-        for (int i : new int[] {-1, x.size(), Integer.MIN_VALUE, Integer.MAX_VALUE}) {
+        for (int i : new int[] {-1, 232, Integer.MIN_VALUE, Integer.MAX_VALUE}) {
             CHECKS.due("alter " + i, x.alter(i, 255), -1);
         }
-        CHECKS.dueRow("disk after alters", Checks.diskOf(x), want);
-        CHECKS.dueRow("root after alters", Checks.rootOf(x), root);
+        // No more than 200 looks, so that they stay within the 512 calls with the alters.
+        for (int start = 0; start < want.length; start += 200) {
+            SealedPages y = Seen.made(2, DiskTest::alterAll);
+            for (int i = start; i < Math.min(want.length, start + 200); i++) {
+                CHECKS.due("disk " + i + " after alters", y.disk(i), want[i]);
+            }
+        }
+        CHECKS.dueRow("root after alters", Checks.rootOf(Seen.made(2, DiskTest::alterAll)), new Model(2).root);
+    }
+
+    private static void alterPages(SealedPages x) {
+        for (int i = 8; i < 136; i++) {
+            x.alter(i, i);
+        }
     }
 
     private static void promise11CarryOverlapping() {
         int[][] rows = {{0, 0, 232}, {0, 5, 200}, {5, 0, 200}, {8, 72, 64}, {72, 8, 64}, {231, 0, 1}, {0, 231, 1},
             {10, 11, 50}, {11, 10, 50}, {0, 1, 231}, {1, 0, 231}, {100, 30, 0}, {232, 232, 0}, {232, 0, 0}};
+        int[] before = Seen.diskAfter(2, DiskTest::alterPages);
         for (int[] row : rows) {
-            SealedPages x = new SealedPages(2);
-            for (int i = 8; i < 136; i++) {
-                x.alter(i, i);
-            }
-            int[] before = Checks.diskOf(x);
             int[] want = before.clone();
             for (int i = 0; i < row[2]; i++) {
                 want[row[1] + i] = before[row[0] + i];
             }
             String call = "carry " + row[0] + " " + row[1] + " " + row[2];
-            CHECKS.due(call, x.carry(row[0], row[1], row[2]), row[2]);
-            CHECKS.dueRow("disk after " + call, Checks.diskOf(x), want);
+            Consumer<SealedPages> carried = x -> {
+                alterPages(x);
+                CHECKS.due(call, x.carry(row[0], row[1], row[2]), row[2]);
+            };
+            CHECKS.dueRow("disk after " + call, Seen.diskAfter(2, carried), want);
         }
     }
 
@@ -85,12 +107,12 @@ public final class DiskTest {
             {0, 1, 232}, {232, 0, 1}, {0, 232, 1}, {233, 0, 0}, {0, 233, 0}, {most, 0, 0}, {0, most, 0}, {0, 0, most},
             {most, most, most}, {1, 1, most}, {most, 0, 1}, {least, 0, 1}, {0, least, 1}, {0, 0, least},
             {least, least, least}, {5, 5, least}, {most, 5, least}};
-        SealedPages x = new SealedPages(2);
-        int[] before = Checks.diskOf(x);
-        for (int[] row : rows) {
-            CHECKS.due("carry " + row[0] + " " + row[1] + " " + row[2], x.carry(row[0], row[1], row[2]), -1);
-        }
-        CHECKS.dueRow("disk after refused carry", Checks.diskOf(x), before);
+        Consumer<SealedPages> refused = x -> {
+            for (int[] row : rows) {
+                CHECKS.due("carry " + row[0] + " " + row[1] + " " + row[2], x.carry(row[0], row[1], row[2]), -1);
+            }
+        };
+        CHECKS.dueRow("disk after refused carry", Seen.diskAfter(2, refused), new Model(2).disk);
     }
 
     private static void promise12Root() {
@@ -119,62 +141,71 @@ public final class DiskTest {
         CHECKS.dueRow("root", Checks.rootOf(x), root);
     }
 
+    private static void putAndWrite(SealedPages x, int page, int v) {
+        x.put(0, v);
+        x.write(page);
+    }
+
     private static void promise20KeepsOneAtATime() {
-        SealedPages x = new SealedPages(3);
-        CHECKS.due("keep", x.keep(), 392);
-        x.put(0, 1);
-        x.write(1);
-        int[] disk = Checks.diskOf(x);
-        int[] root = Checks.rootOf(x);
-        CHECKS.due("keep again", x.keep(), 392);
-        CHECKS.dueRow("disk after keep", Checks.diskOf(x), disk);
-        CHECKS.dueRow("root after keep", Checks.rootOf(x), root);
-        x.put(0, 2);
-        x.write(1);
-        x.open();
-        CHECKS.dueRow("disk after open", Checks.diskOf(x), disk);
+        Consumer<SealedPages> written = x -> {
+            CHECKS.due("keep", x.keep(), 392);
+            putAndWrite(x, 1, 1);
+        };
+        Consumer<SealedPages> kept = written.andThen(x -> CHECKS.due("keep again", x.keep(), 392));
+        Consumer<SealedPages> opened = kept.andThen(x -> {
+            putAndWrite(x, 1, 2);
+            x.open();
+        });
+        int[] disk = Seen.diskAfter(3, written);
+        int[] root = Checks.rootOf(Seen.made(3, written));
+        CHECKS.dueRow("disk after keep", Seen.diskAfter(3, kept), disk);
+        CHECKS.dueRow("root after keep", Checks.rootOf(Seen.made(3, kept)), root);
+        CHECKS.dueRow("disk after open", Seen.diskAfter(3, opened), disk);
+        SealedPages x = Seen.made(3, opened);
         CHECKS.dueRow("root after open", Checks.rootOf(x), root);
         CHECKS.due("open again", x.open(), 0);
         CHECKS.due("draft stays", x.draft(0), 2);
     }
 
     private static void promise21BackLeavesTheRoot() {
-        SealedPages x = new SealedPages(4);
-        x.keep();
-        int[] disk = Checks.diskOf(x);
-        x.alter(8, 1);
-        x.alter(9, 255);
-        x.alter(10, 0);
-        x.alter(487, 16);
-        CHECKS.due("back", x.back(), 3);
-        CHECKS.dueRow("disk after back", Checks.diskOf(x), disk);
+        int[] disk = new Model(4).disk;
+        Consumer<SealedPages> altered = x -> {
+            x.keep();
+            x.alter(8, 1);
+            x.alter(9, 255);
+            x.alter(10, 0);
+            x.alter(487, 16);
+            CHECKS.due("back", x.back(), 3);
+        };
+        CHECKS.dueRow("disk after back", Seen.diskAfter(4, altered), disk);
+        SealedPages x = Seen.made(4, altered);
         CHECKS.due("held after back", x.held(), 4);
         CHECKS.due("back again", x.back(), 0);
-        x.put(0, 1);
-        x.write(0);
-        int[] root = Checks.rootOf(x);
-        x.back();
-        CHECKS.dueRow("disk after back", Checks.diskOf(x), disk);
-        CHECKS.dueRow("root after back", Checks.rootOf(x), root);
-        CHECKS.due("an old image is found out", x.fault(3), 2);
-        CHECKS.due("held of an old image", x.held(), 0);
+        Consumer<SealedPages> written = altered.andThen(y -> putAndWrite(y, 0, 1));
+        Consumer<SealedPages> old = written.andThen(SealedPages::back);
+        CHECKS.dueRow("disk after back", Seen.diskAfter(4, old), disk);
+        SealedPages found = Seen.made(4, old);
+        CHECKS.dueRow("root after back", Checks.rootOf(found), Checks.rootOf(Seen.made(4, written)));
+        CHECKS.due("an old image is found out", found.fault(3), 2);
+        CHECKS.due("held of an old image", found.held(), 0);
     }
 
     private static void promise22OpenBringsTheRoot() {
-        SealedPages x = new SealedPages(4);
-        int[] disk = Checks.diskOf(x);
-        int[] root = Checks.rootOf(x);
-        x.keep();
-        x.put(0, 1);
-        x.write(0);
-        int[] now = Checks.diskOf(x);
+        Model m = new Model(4);
+        Consumer<SealedPages> written = x -> {
+            x.keep();
+            putAndWrite(x, 0, 1);
+        };
+        int[] now = Seen.diskAfter(4, written);
         int differed = 0;
         for (int i = 0; i < now.length; i++) {
-            differed += now[i] == disk[i] ? 0 : 1;
+            differed += now[i] == m.disk[i] ? 0 : 1;
         }
-        CHECKS.due("open", x.open(), differed);
-        CHECKS.dueRow("disk after open", Checks.diskOf(x), disk);
-        CHECKS.dueRow("root after open", Checks.rootOf(x), root);
+        CHECKS.due("open", Seen.answer(4, written, SealedPages::open), differed);
+        Consumer<SealedPages> opened = written.andThen(SealedPages::open);
+        CHECKS.dueRow("disk after open", Seen.diskAfter(4, opened), m.disk);
+        SealedPages x = Seen.made(4, opened);
+        CHECKS.dueRow("root after open", Checks.rootOf(x), m.root);
         CHECKS.due("held after open", x.held(), 4);
         x.alter(8, 4);
         x.keep();
@@ -186,14 +217,12 @@ public final class DiskTest {
     }
 
     private static void promise21And22NothingKept() {
-        SealedPages x = new SealedPages(2);
-        x.put(0, 1);
-        x.write(0);
-        int[] disk = Checks.diskOf(x);
-        int[] root = Checks.rootOf(x);
-        CHECKS.due("back", x.back(), -1);
-        CHECKS.due("open", x.open(), -1);
-        CHECKS.dueRow("disk", Checks.diskOf(x), disk);
-        CHECKS.dueRow("root", Checks.rootOf(x), root);
+        Consumer<SealedPages> written = x -> putAndWrite(x, 0, 1);
+        Consumer<SealedPages> refused = written.andThen(x -> {
+            CHECKS.due("back", x.back(), -1);
+            CHECKS.due("open", x.open(), -1);
+        });
+        CHECKS.dueRow("disk", Seen.diskAfter(2, refused), Seen.diskAfter(2, written));
+        CHECKS.dueRow("root", Checks.rootOf(Seen.made(2, refused)), Checks.rootOf(Seen.made(2, written)));
     }
 }

@@ -7,6 +7,7 @@ public final class DraftTest {
 
     public static void main(String[] args) {
         promise2Put();
+        promise2Refuses();
         promise2TakesLowestEightBits();
         promise3Fill();
         promise3Refuses();
@@ -17,22 +18,28 @@ public final class DraftTest {
     }
 
     private static void promise2Put() {
-        SealedPages x = new SealedPages(2);
         int[] want = new int[64];
         for (int i = 0; i < 64; i++) {
             want[i] = 3 * i + 1;
-            CHECKS.due("put " + i, x.put(i, want[i]), 0);
+            SealedPages x = new SealedPages(2);
+            for (int k = 0; k <= i; k++) {
+                CHECKS.due("put " + k, x.put(k, want[k]), 0);
+            }
             CHECKS.dueRow("draft after put " + i, Checks.draftOf(x), want);
-        }
-        for (int i = 0; i < 64; i++) {
             CHECKS.due("put again " + i, x.put(i, 7), want[i]);
+            CHECKS.due("put leaves the disk", x.disk(8 + i), 0);
         }
+    }
+
+    private static void promise2Refuses() {
+        SealedPages x = new SealedPages(2);
+        x.put(0, 5);
+        x.put(63, 6);
         int[] before = Checks.draftOf(x);
         for (int i : OUTSIDE_64) {
             CHECKS.due("put " + i, x.put(i, 9), -1);
         }
         CHECKS.dueRow("draft after refused put", Checks.draftOf(x), before);
-        CHECKS.due("put leaves the disk", x.disk(8), 0);
     }
 
     private static void promise2TakesLowestEightBits() {
@@ -84,18 +91,18 @@ public final class DraftTest {
     }
 
     private static void promise23HashOfEveryLength() {
-        SealedPages x = new SealedPages(1);
-        for (int k = 0; k < 8; k++) {
-            x.fill(k, 0x9e3779b97f4a7c15L * (k + 1));
-        }
-        int[] row = Checks.draftOf(x);
         for (int n = 0; n <= 64; n++) {
+            SealedPages x = new SealedPages(1);
+            for (int k = 0; k < 8; k++) {
+                x.fill(k, 0x9e3779b97f4a7c15L * (k + 1));
+            }
+            int[] row = Checks.draftOf(x);
             int[] want = Checks.sha(Arrays.copyOf(row, n));
             for (int i = 0; i < 32; i++) {
                 CHECKS.due("hash " + n + " " + i, x.hash(n, i), want[i]);
             }
+            CHECKS.dueRow("draft after hash", Checks.draftOf(x), row);
         }
-        CHECKS.dueRow("draft after hash", Checks.draftOf(x), row);
     }
 
     private static void promise23Refuses() {

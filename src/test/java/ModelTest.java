@@ -1,14 +1,27 @@
+import java.util.ArrayList;
+import java.util.List;
 import java.util.Random;
+import java.util.function.ToIntFunction;
 
-/** Runs of 512 calls, the same every time, on objects of every size, held against the model. */
+/**
+ * Runs of calls, the same every time, on objects of every size, held against the model: long ones up
+ * to the 512th call, and shorter ones that are made again to look at all that they leave.
+ */
 public final class ModelTest {
+    private static final int LONG_RUN = 512;
+    /** With the looks of Seen this stays within 512 calls. */
+    private static final int SHORT_RUN = 200;
+
     private static final int[] EDGES = {
         Integer.MIN_VALUE, Integer.MIN_VALUE + 1, -256, -65, -64, -33, -32, -2, -1, 0, 1, 2, 3, 4, 6, 7, 8, 9,
         31, 32, 33, 55, 56, 63, 64, 65, 127, 255, 256, 511, Integer.MAX_VALUE - 1, Integer.MAX_VALUE
     };
 
+    /** One call with its arguments, as it is made on the program and on the model. */
+    private record Call(String name, ToIntFunction<SealedPages> made, ToIntFunction<Model> wanted) {
+    }
+
     private final Checks checks = new Checks("ModelTest");
-    private SealedPages x;
     private Model m;
     private Random random;
     private int lastPlace = -1;
@@ -18,32 +31,52 @@ public final class ModelTest {
         ModelTest test = new ModelTest();
         int[] odd = {0, -1, 65, 66, 256, 257, Integer.MIN_VALUE, Integer.MAX_VALUE};
         for (int pages : odd) {
-            test.run(pages, 1);
+            test.run(pages, 1, LONG_RUN);
+            test.dueAllAfter(pages, test.run(pages, 2, SHORT_RUN));
         }
         for (int pages = 1; pages <= 64; pages++) {
             for (int seed = 0; seed < 6; seed++) {
-                test.run(pages, 1000L * pages + seed);
+                test.run(pages, 1000L * pages + seed, LONG_RUN);
+            }
+            for (int seed = 6; seed < 9; seed++) {
+                test.dueAllAfter(pages, test.run(pages, 1000L * pages + seed, SHORT_RUN));
             }
         }
         test.checks.end();
     }
 
-    private void run(int pages, long seed) {
-        x = new SealedPages(pages);
+    /** Makes the run, each answer held against the model's, and tells the calls that it made. */
+    private List<Call> run(int pages, long seed, int length) {
+        SealedPages x = new SealedPages(pages);
         m = new Model(pages);
         random = new Random(seed);
         lastPlace = -1;
-        sameState("new " + pages);
-        for (int call = 0; call < 512 && checks.allRight(); call++) {
-            oneCall("pages " + pages + " seed " + seed + " call " + call + ": ");
+        List<Call> calls = new ArrayList<>();
+        while (calls.size() < length && checks.allRight()) {
+            Call call = nextCall();
+            calls.add(call);
+            String at = "pages " + pages + " seed " + seed + " call " + calls.size() + ": ";
+            checks.due(at + call.name, call.made.applyAsInt(x), call.wanted.applyAsInt(m));
         }
-        sameState("end of pages " + pages + " seed " + seed);
+        return calls;
     }
 
-    private void sameState(String when) {
-        checks.dueRow(when + " disk", Checks.diskOf(x), m.disk);
-        checks.dueRow(when + " root", Checks.rootOf(x), m.root);
-        checks.dueRow(when + " draft", Checks.draftOf(x), m.draft);
+    /** The model is as the run left it. */
+    private void dueAllAfter(int pages, List<Call> calls) {
+        int[] now = allOfModel();
+        int[] opened = {m.open()};
+        int[] want = Checks.join(now, allOfModel(), opened);
+        checks.dueRow("all after a run of " + pages, Seen.after(pages, x -> makeAgain(x, calls)), want);
+    }
+
+    private int[] allOfModel() {
+        return Checks.join(m.disk, m.root, m.draft, new int[] {m.pages, m.given, m.written, m.faults});
+    }
+
+    private static void makeAgain(SealedPages x, List<Call> calls) {
+        for (Call call : calls) {
+            call.made.applyAsInt(x);
+        }
     }
 
     /** Mostly in 0 .. bound - 1, at times an edge or just outside. */
@@ -62,52 +95,96 @@ public final class ModelTest {
         return random.nextInt(3) == 0 ? EDGES[random.nextInt(EDGES.length)] : random.nextInt();
     }
 
-    private void oneCall(String at) {
-        switch (random.nextInt(28)) {
-            case 0 -> { int i = below(64), v = anyInt(); checks.due(at + "put " + i + " " + v, x.put(i, v), m.put(i, v)); }
-            case 1, 2 -> { int k = below(8); long v = random.nextLong(); checks.due(at + "fill " + k + " " + v, x.fill(k, v), m.fill(k, v)); }
-            case 3 -> { int i = below(64); checks.due(at + "draft " + i, x.draft(i), m.draft(i)); }
-            case 4, 5 -> { int p = below(m.pages); checks.due(at + "read " + p, x.read(p), m.read(p)); }
-            case 6, 7, 8 -> { int p = below(m.pages); checks.due(at + "write " + p, x.write(p), m.write(p)); }
-            case 9 -> { if (random.nextInt(3) == 0) checks.due(at + "seal", x.seal(), m.seal()); }
-            case 10 -> checks.due(at + "size", x.size(), m.size());
-            case 11 -> { int i = below(m.size()); checks.due(at + "disk " + i, x.disk(i), m.disk(i)); }
-            case 12, 13 -> alter(at);
-            case 14 -> carry(at);
-            case 15 -> { int i = below(32); checks.due(at + "root " + i, x.root(i), m.root(i)); }
-            case 16, 17 -> { int p = below(m.pages); checks.due(at + "fault " + p, x.fault(p), m.fault(p)); }
-            case 18 -> checks.due(at + "held", x.held(), m.held());
-            case 19 -> checks.due(at + "first", x.first(), m.first());
-            case 20 -> checks.due(at + "levels", x.levels(), m.levels());
-            case 21 -> { int l = below(m.levels()), k = below(m.pages); checks.due(at + "node " + l + " " + k, x.node(l, k), m.node(l, k)); }
-            case 22 -> { int p = below(m.pages); checks.due(at + "proof " + p, x.proof(p), m.proof(p)); }
-            case 23 -> { int p = below(m.pages), k = below(7), i = below(32); checks.due(at + "beside " + p + " " + k + " " + i, x.beside(p, k, i), m.beside(p, k, i)); }
-            case 24 -> { if (m.held() == m.pages || random.nextInt(4) == 0) checks.due(at + "keep", x.keep(), m.keep()); }
-            case 25 -> { if (random.nextInt(2) == 0) checks.due(at + "back", x.back(), m.back()); else checks.due(at + "open", x.open(), m.open()); }
-            case 26 -> { int n = below(65), i = below(32); checks.due(at + "hash " + n + " " + i, x.hash(n, i), m.hash(n, i)); }
-            default -> { int w = random.nextInt(3) == 0 ? anyInt() : random.nextInt(5); checks.due(at + "told " + w, x.told(w), m.told(w)); }
-        }
+    private Call nextCall() {
+        int kind = random.nextInt(26);
+        return switch (kind) {
+            case 0, 1, 2, 3, 4 -> draftCall(kind);
+            case 5, 6, 7, 8, 9, 10, 11 -> pageCall(kind);
+            case 12, 13, 14, 15, 16, 17 -> diskCall(kind);
+            case 18, 19, 20, 21 -> treeCall(kind);
+            default -> keptCall(kind);
+        };
+    }
+
+    private Call draftCall(int kind) {
+        int i = below(64);
+        int k = below(8);
+        int v = anyInt();
+        long bytes = random.nextLong();
+        int n = below(65);
+        int b = below(32);
+        return switch (kind) {
+            case 0 -> new Call("put " + i + " " + v, x -> x.put(i, v), y -> y.put(i, v));
+            case 1, 2 -> new Call("fill " + k + " " + bytes, x -> x.fill(k, bytes), y -> y.fill(k, bytes));
+            case 3 -> new Call("draft " + i, x -> x.draft(i), y -> y.draft(i));
+            default -> new Call("hash " + n + " " + b, x -> x.hash(n, b), y -> y.hash(n, b));
+        };
+    }
+
+    private Call pageCall(int kind) {
+        int p = below(m.pages);
+        return switch (kind) {
+            case 5, 6 -> new Call("read " + p, x -> x.read(p), y -> y.read(p));
+            case 7, 8, 9 -> new Call("write " + p, x -> x.write(p), y -> y.write(p));
+            default -> new Call("fault " + p, x -> x.fault(p), y -> y.fault(p));
+        };
+    }
+
+    private Call diskCall(int kind) {
+        int i = below(m.size());
+        int r = below(32);
+        return switch (kind) {
+            case 12, 13 -> alter();
+            case 14 -> carry();
+            case 15 -> new Call("disk " + i, x -> x.disk(i), y -> y.disk(i));
+            case 16 -> new Call("root " + r, x -> x.root(r), y -> y.root(r));
+            default -> random.nextInt(2) == 0 ? new Call("size", SealedPages::size, Model::size)
+                    : new Call("levels", SealedPages::levels, Model::levels);
+        };
     }
 
     /** Half the time the last change is undone, so that images hold again and again. */
-    private void alter(String at) {
-        int place = below(m.size());
-        int bits = anyInt();
-        if (lastPlace >= 0 && random.nextInt(2) == 0) {
-            place = lastPlace;
-            bits = lastBits;
-            lastPlace = -1;
-        } else {
-            lastPlace = place;
-            lastBits = bits;
-        }
-        checks.due(at + "alter " + place + " " + bits, x.alter(place, bits), m.alter(place, bits));
+    private Call alter() {
+        boolean undone = lastPlace >= 0 && random.nextInt(2) == 0;
+        int place = undone ? lastPlace : below(m.size());
+        int bits = undone ? lastBits : anyInt();
+        lastPlace = undone ? -1 : place;
+        lastBits = bits;
+        return new Call("alter " + place + " " + bits, x -> x.alter(place, bits), y -> y.alter(place, bits));
     }
 
-    private void carry(String at) {
+    private Call carry() {
         int from = below(m.size());
         int to = random.nextInt(3) == 0 ? below(m.size()) : Math.max(0, from - 40) + random.nextInt(80);
         int n = random.nextInt(3) == 0 ? below(m.size()) : random.nextInt(100);
-        checks.due(at + "carry " + from + " " + to + " " + n, x.carry(from, to, n), m.carry(from, to, n));
+        return new Call("carry " + from + " " + to + " " + n, x -> x.carry(from, to, n), y -> y.carry(from, to, n));
+    }
+
+    private Call treeCall(int kind) {
+        int p = below(m.pages);
+        int level = below(m.levels());
+        int k = below(7);
+        int i = below(32);
+        return switch (kind) {
+            case 18 -> random.nextInt(2) == 0 ? new Call("held", SealedPages::held, Model::held)
+                    : new Call("first", SealedPages::first, Model::first);
+            case 19 -> new Call("node " + level + " " + p, x -> x.node(level, p), y -> y.node(level, p));
+            case 20 -> new Call("proof " + p, x -> x.proof(p), y -> y.proof(p));
+            default -> new Call("beside " + p + " " + k + " " + i, x -> x.beside(p, k, i), y -> y.beside(p, k, i));
+        };
+    }
+
+    /** An image that holds is kept more often, so that open mends; seal is seldom, so that faults last a while. */
+    private Call keptCall(int kind) {
+        int what = random.nextInt(3) == 0 ? anyInt() : random.nextInt(5);
+        Call told = new Call("told " + what, x -> x.told(what), y -> y.told(what));
+        boolean keeps = m.held() == m.pages || random.nextInt(4) == 0;
+        return switch (kind) {
+            case 22 -> keeps ? new Call("keep", SealedPages::keep, Model::keep) : told;
+            case 23 -> random.nextInt(2) == 0 ? new Call("back", SealedPages::back, Model::back)
+                    : new Call("open", SealedPages::open, Model::open);
+            case 24 -> random.nextInt(3) == 0 ? new Call("seal", SealedPages::seal, Model::seal) : told;
+            default -> told;
+        };
     }
 }

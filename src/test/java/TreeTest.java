@@ -19,9 +19,10 @@ public final class TreeTest {
     /** Each byte of the disk by itself: the model tells every page's fault, the count and the least. */
     private static void promise13EveryByteBroken() {
         for (int pages : new int[] {1, 2, 3, 5, 6, 7}) {
-            SealedPages x = new SealedPages(pages);
-            Model m = new Model(pages);
-            for (int i = 0; i < x.size(); i++) {
+            int size = new SealedPages(pages).size();
+            for (int i = 0; i < size; i++) {
+                SealedPages x = new SealedPages(pages);
+                Model m = new Model(pages);
                 int bit = 1 << i % 8;
                 x.alter(i, bit);
                 m.alter(i, bit);
@@ -31,7 +32,7 @@ public final class TreeTest {
                 CHECKS.due("held of " + pages + ", byte " + i, x.held(), m.held());
                 CHECKS.due("first of " + pages + ", byte " + i, x.first(), m.first());
                 x.alter(i, bit);
-                m.alter(i, bit);
+                CHECKS.due("held of " + pages + ", byte " + i + " turned back", x.held(), pages);
             }
         }
     }
@@ -144,37 +145,41 @@ public final class TreeTest {
     /** From the page and the nodes beside its way alone, the root comes out. */
     private static void promise18And19ShowThePageToWhoHasTheRoot() {
         for (int pages : new int[] {1, 2, 3, 4, 5, 6, 7, 11, 33, 64}) {
-            SealedPages x = new SealedPages(pages);
             for (int page = 0; page < pages; page++) {
-                x.put(page % 64, page + 1);
-                x.write(page);
-            }
-            for (int page = 0; page < pages; page++) {
-                x.read(page);
-                int[] node = Checks.sha(Checks.join(new int[] {0, page}, Checks.draftOf(x)));
-                int width = pages;
-                int used = 0;
-                int level = 1;
-                for (int k = page; width > 1; k /= 2) {
-                    int[] start = {level, k / 2};
-                    if (k % 2 == 1) {
-                        node = Checks.sha(Checks.join(start, besideRow(x, page, used++), node));
-                    } else if (k + 1 < width) {
-                        node = Checks.sha(Checks.join(start, node, besideRow(x, page, used++)));
-                    } else {
-                        node = Checks.sha(Checks.join(start, node));
-                    }
-                    width = (width + 1) / 2;
-                    level++;
-                }
-                CHECKS.due("proof " + page + " of " + pages, x.proof(page), used);
-                int[] head = {83, 73, pages, 64, 0, 0, 0, 0};
-                CHECKS.dueRow("root by page " + page, Checks.rootOf(x), Checks.sha(Checks.join(head, node)));
+                dueRootByPage(pages, page);
             }
         }
         SealedPages altered = new SealedPages(2);
         int was = altered.alter(altered.node(0, 1) + 31, 3);
         CHECKS.due("beside as it is on the disk", altered.beside(0, 0, 31), was ^ 3);
+    }
+
+    private static void dueRootByPage(int pages, int page) {
+        SealedPages x = new SealedPages(pages);
+        for (int written = 0; written < pages; written++) {
+            x.put(written, written + 1);
+            x.write(written);
+        }
+        x.read(page);
+        int[] node = Checks.sha(Checks.join(new int[] {0, page}, Checks.draftOf(x)));
+        int width = pages;
+        int used = 0;
+        int level = 1;
+        for (int k = page; width > 1; k /= 2) {
+            int[] start = {level, k / 2};
+            if (k % 2 == 1) {
+                node = Checks.sha(Checks.join(start, besideRow(x, page, used++), node));
+            } else if (k + 1 < width) {
+                node = Checks.sha(Checks.join(start, node, besideRow(x, page, used++)));
+            } else {
+                node = Checks.sha(Checks.join(start, node));
+            }
+            width = (width + 1) / 2;
+            level++;
+        }
+        CHECKS.due("proof " + page + " of " + pages, x.proof(page), used);
+        int[] head = {83, 73, pages, 64, 0, 0, 0, 0};
+        CHECKS.dueRow("root by page " + page, Checks.rootOf(x), Checks.sha(Checks.join(head, node)));
     }
 
     private static void promise19Refuses() {
